@@ -42,9 +42,6 @@ public final class AnswerKeeper {
     }
 
     public int changed(int thing) {
-        if (!within(thing, 0, THING_COUNT - 1)) {
-            return UNKNOWN;
-        }
         int state = things.change(thing);
         settle();
         return state;
@@ -71,7 +68,7 @@ public final class AnswerKeeper {
                 || !isSetOfValues(0, products) || !isSetOfValues(1, editions) || !isSetOfValues(2, roles)) {
             return OUTSIDE;
         }
-        if (answerCount >= MOST_ANSWERS) {
+        if (answerCount >= answers.length) {
             return FULL;
         }
         Answer plain = new Answer(answerCount, PLAIN, steps);
@@ -91,7 +88,7 @@ public final class AnswerKeeper {
         if (c == NONE && d != NONE || Integer.bitCount(together) != count || !areAllPlain(together)) {
             return NOT;
         }
-        if (answerCount >= MOST_ANSWERS) {
+        if (answerCount >= answers.length) {
             return FULL;
         }
         Answer joined = new Answer(answerCount, JOINED, NONE);
@@ -271,14 +268,13 @@ public final class AnswerKeeper {
                 || !isValueOrNone(0, product) || !isValueOrNone(1, edition) || !isValueOrNone(2, role)) {
             return OUTSIDE;
         }
-        if (askCount >= MOST_ASKS || askCount >= asks.length) {
+        if (askCount >= asks.length) {
             return FULL;
         }
-        int number = askCount;
-        asks[number] = new Ask(words, product, edition, role);
+        asks[askCount] = new Ask(words, product, edition, role);
         askCount++;
         settle();
-        return number;
+        return askCount - 1;
     }
 
     public int found(int ask, int i, int what) {

@@ -18,6 +18,7 @@ public final class PromisesTest {
         confirm();
         move();
         moveIntoParts();
+        moveDeep();
         melt();
         meltRefused();
         vote();
@@ -35,6 +36,7 @@ public final class PromisesTest {
         costParts();
         asked();
         heaps();
+        heapsApart();
         help();
         due.end();
     }
@@ -354,6 +356,32 @@ public final class PromisesTest {
         due.is("4 is a part of 7 alone, which is moved", x.move(4, 6), 6);
         due.is("both parts of 7", x.told(7, 11), 6);
         due.is("words", x.words(7), 1 | 4);
+    }
+
+    /** Each joined one has a part that leads on to the next one, which has a greater number. */
+    private static void moveDeep() {
+        due.part("9 move, seven deep");
+        AnswerKeeper x = new AnswerKeeper();
+        for (int a = 0; a < 14; a++) {
+            x.answer(1L << a, a, 255, 1023 ^ 1 << a % 10, 15);
+        }
+        for (int k = 0; k < 7; k++) {
+            x.join(2 * k, 2 * k + 1, NONE, NONE);
+        }
+        for (int k = 0; k < 6; k++) {
+            due.is("move", x.move(2 * k, 15 + k), 15 + k);
+        }
+        due.is("words at any depth", x.words(14), 0b11101010101010L);
+        due.is("sets at any depth", x.told(14, 4), 1023 & ~0b1010101010 & ~0b1100);
+        x.bind(13, 64);
+        x.changed(6);
+        due.is("doubted at any depth", x.told(14, 7), 1);
+        due.is("things at any depth", x.told(14, 6), 64);
+        due.is("all seven are doubted, and the part", x.count(4), 8);
+        due.is("a part at any depth", x.move(13, 14), NOT);
+        due.is("a joined part at any depth", x.move(20, 14), NOT);
+        due.is("by a moved one", x.move(12, 0), NOT);
+        due.is("the other way", x.move(14, 20), 20);
     }
 
     private static void melt() {
@@ -697,6 +725,16 @@ public final class PromisesTest {
         due.is("the only question", x.found(1, 3, 2), 2);
         x.ask(1L, 1, NONE, NONE);
         due.is("not fit, not found", x.asked(2, 3), 3);
+        x.ask(1L, NONE, 5, NONE);
+        due.is("told the edition: not fit", x.cost(3, 1), NOT);
+        due.is("told the edition: a question of products", x.found(3, 1, 2), 0);
+        due.is("told the edition: a question of roles", x.found(3, 2, 2), 2);
+        x.ask(1L, NONE, NONE, 3);
+        due.is("told the role: not fit", x.cost(4, 2), NOT);
+        due.is("told the role: a question of editions", x.found(4, 2, 2), 1);
+        x.ask(1L, 0, 9, 2);
+        due.is("told all: not fit", x.cost(5, 2), NOT);
+        due.is("told all: fit", x.cost(5, 0), 0);
     }
 
     private static void foundOrder() {
@@ -847,8 +885,38 @@ public final class PromisesTest {
         due.is("folded, and one has no words", x.asked(5, 1), 1);
     }
 
+    private static void heapsApart() {
+        due.part("20 heaps apart");
+        AnswerKeeper x = new AnswerKeeper();
+        x.ask(0b1L, 0, 0, 0);
+        x.ask(0b11L, 0, 0, 0);
+        x.ask(0b111L << 10, 0, 0, 0);
+        x.ask(0b1111L << 10, 0, 0, 0);
+        x.ask(0b111L << 20, 0, 0, 0);
+        due.is("three heaps", x.count(8), 3);
+        int[] wants = {0, 0, 1, 1, 2};
+        for (int k = 0; k < 5; k++) {
+            due.is("heap of " + k, x.asked(k, 1), wants[k]);
+        }
+        AnswerKeeper y = new AnswerKeeper();
+        y.ask(0b0L, 0, 0, 0);
+        y.ask(0b11L, 1, 1, 1);
+        y.ask(0b1111L, 0, 0, 0);
+        due.is("one between them", y.count(8), 1);
+        y.answer(0b11L, 1, 2, 2, 2);
+        due.is("the one between them finds: no way by it", y.count(8), 2);
+        due.is("the first heap", y.asked(0, 1), 0);
+        due.is("in no heap", y.asked(1, 1), NONE);
+        due.is("the second heap", y.asked(2, 1), 1);
+    }
+
     private static void help() {
         due.part("20 help");
+        AnswerKeeper z = new AnswerKeeper();
+        everywhere(z, 1L | 1L << 1, 1);
+        z.rule(1, 3);
+        z.ask(0L, 0, 0, 0);
+        due.is("the least word of all", z.asked(0, 2), 0);
         AnswerKeeper x = new AnswerKeeper();
         x.answer(0b1111100L, 1, 1, 1023, 15);
         x.ask(0b0011000L, 0, 0, 0);
