@@ -479,19 +479,30 @@ public final class AnswerKeeper {
             }
         }
         for (int round = 0; round < MOST_ANSWERS; round++) {
+            boolean wider = false;
             for (int a = 0; a < answerCount; a++) {
-                widenUnder(answerAt(a));
+                if (widenUnder(answerAt(a))) {
+                    wider = true;
+                }
+            }
+            if (!wider) {
+                break;
             }
         }
     }
 
-    private void widenUnder(Answer x) {
-        for (int i = 0; x != null && i < MOST_PARTS; i++) {
+    private boolean widenUnder(Answer x) {
+        if (x == null) {
+            return false;
+        }
+        int was = x.under;
+        for (int i = 0; i < MOST_PARTS; i++) {
             Answer part = endOf(x.partAt(i));
             if (part != null) {
                 x.under |= bit(part.number) | part.under;
             }
         }
+        return x.under != was;
     }
 
     /** Of what is under a JOINED one the PLAIN ones are enough: all else there is joined of them in turn. */
@@ -702,10 +713,14 @@ public final class AnswerKeeper {
     private int heapFrom(int first, int vain) {
         int heap = bit(first);
         for (int round = 0; round < MOST_ASKS; round++) {
+            int was = heap;
             for (int k = 0; k < askCount; k++) {
                 if ((vain & ~heap & bit(k)) != 0 && isNearOne(askAt(k), heap)) {
                     heap |= bit(k);
                 }
+            }
+            if (heap == was) {
+                break;
             }
         }
         return heap;
