@@ -385,6 +385,8 @@ final class AnswerEdges extends Edges {
         due.is("joined, of the end", x.words(5), 3L << 20);
         x.move(5, 1);
         due.is("joined and moved", x.words(5), 3L << 20);
+        due.is("one that comes after the book was changed", everywhere(x, 0b11, 5), 6);
+        due.is("not folded either", x.words(6), 0b11);
     }
 
     private void wordsRefused() {

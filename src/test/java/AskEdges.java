@@ -197,6 +197,17 @@ final class AskEdges extends Edges {
             due.is(n + " up, after 20", x.cost(0, 0), 3 - Math.min(n, 9));
             due.is(n + " down, after 20", x.cost(0, 1), 3 + Math.min(n, 9));
         }
+        x.join(0, 1, NONE, NONE);
+        x.vote(0, true);
+        due.is("joined: those of its parts are not its own", x.cost(0, 2), 6);
+        for (int n = 1; n <= 12; n++) {
+            x.vote(2, true);
+            due.is("joined, " + n + " up", x.cost(0, 2), 6 - Math.min(n, 9));
+        }
+        for (int n = 11; n >= -12; n--) {
+            x.vote(2, false);
+            due.is("joined, " + n, x.cost(0, 2), 6 - Math.max(-9, Math.min(n, 9)));
+        }
     }
 
     private void foundAtMostLimit() {
@@ -233,6 +244,16 @@ final class AskEdges extends Edges {
         due.is("200: a cost of 213", y.asked(2, 3), 0);
         y.vote(0, false);
         due.is("200: a cost of 201", y.asked(1, 3), 0);
+        AnswerKeeper z = withAnswers(2);
+        z.join(0, 1, NONE, NONE);
+        askOpen(z, 1 | 2);
+        z.rule(1, 0);
+        due.is("0: joined, a cost of 0", z.asked(0, 3), 1);
+        due.is("0: joined, a cost of 0", z.found(0, 0, 0), 2);
+        z.vote(2, false);
+        due.is("0: joined, a cost of 1", z.asked(0, 3), 0);
+        z.rule(1, 1);
+        due.is("1: joined, a cost of 1", z.asked(0, 3), 1);
         due.is("LIMIT -1", y.rule(1, -1), OUTSIDE);
         due.is("LIMIT 201", y.rule(1, 201), OUTSIDE);
     }
@@ -280,6 +301,17 @@ final class AskEdges extends Edges {
         due.is("cheaper ones that are not fit, or moved, take no place", z.found(0, 0, 0), 2);
         due.is("cheaper ones that are not fit, or moved, take no place", z.found(0, 1, 0), 3);
         due.is("there are two", z.found(0, 2, 0), NONE);
+        AnswerKeeper j = withAnswers(3);
+        j.join(0, 1, NONE, NONE);
+        everywhere(j, 1 | 2, 4);
+        j.join(1, 0, NONE, NONE);
+        everywhere(j, 1 | 2, 5);
+        askOpen(j, 1 | 2);
+        int[] byNumber = {3, 4, 5, 6, 0, 1};
+        for (int place = 0; place < byNumber.length; place++) {
+            due.is("plain and joined ones of like cost, place " + place, j.found(0, place, 0), byNumber[place]);
+        }
+        due.is("a cost of 23 is not found", j.found(0, 6, 0), NONE);
     }
 
     private void atMost() {
@@ -484,6 +516,16 @@ final class AskEdges extends Edges {
         due.is("it is folded to another itself", x.asked(0, 2), 20);
         x.fold(0, 5);
         due.is("as the answer's word is", x.asked(0, 2), 0);
+        AnswerKeeper y = new AnswerKeeper();
+        everywhere(y, 3, 1);
+        y.fold(2, 0);
+        y.fold(0, 9);
+        y.fold(9, 8);
+        y.rule(1, 0);
+        askOpen(y, 1);
+        due.is("its own words are folded once with the word", y.asked(0, 2), 1);
+        askOpen(y, 1 | 2);
+        due.is("as it finds with the word", y.asked(1, 3), 1);
     }
 
     private void ask() {

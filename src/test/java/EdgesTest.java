@@ -1,6 +1,7 @@
 /**
- * For each sentence of the Terms and of the promises a test of its own: the values just inside and just outside of
- * bounds, empty and full objects, numbers that wrap around, refusals with their order and what they leave as it was.
+ * For each sentence of the document, from its first to its last, a test of its own: the values just inside and just
+ * outside of bounds, empty and full objects, numbers that wrap around, refusals with their order and what they leave
+ * as it was.
  */
 public final class EdgesTest {
     private EdgesTest() {
@@ -15,7 +16,7 @@ public final class EdgesTest {
     static void run(Due due) {
         Quotes doc = new Quotes(due, Quotes.DOCUMENT);
         Edges[] all = {new BookEdges(due, doc), new AnswerEdges(due, doc), new JoinEdges(due, doc),
-            new MeltEdges(due, doc), new AskEdges(due, doc), new RefusalEdges(due, doc)};
+            new MeltEdges(due, doc), new AskEdges(due, doc), new RefusalEdges(due, doc), new SummaryEdges(due, doc)};
         for (Edges edges : all) {
             edges.run();
         }

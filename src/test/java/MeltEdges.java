@@ -269,6 +269,17 @@ final class MeltEdges extends Edges {
         askOpen(x, 1L << 39 | 7);
         due.is("asks find it by all words", x.found(0, 0, 0), 3);
         due.is("asks find it by all words", x.found(0, 0, 1), 0);
+        AnswerKeeper y = new AnswerKeeper();
+        everywhere(y, 1, 1);
+        everywhere(y, 2 | 4, 1);
+        y.fold(0, 10);
+        y.fold(1, 10);
+        y.fold(2, 10);
+        y.melt(0, 1);
+        due.is("words as they came, not folded", y.words(0), 7);
+        y.fold(2, 2);
+        askOpen(y, 4 | 1 << 10);
+        due.is("folded anew", y.cost(0, 0), 0);
     }
 
     private void has(AnswerKeeper x, int a, long words, int products, int editions, int roles, int things) {
@@ -320,6 +331,23 @@ final class MeltEdges extends Edges {
         y.confirm(2);
         y.bind(2, 8);
         due.is("confirmed since", y.told(2, 7), 0);
+        for (int a = 0; a < 2; a++) {
+            AnswerKeeper z = new AnswerKeeper();
+            z.changed(5);
+            everywhere(z, 1, 1);
+            everywhere(z, 2, 1);
+            z.bind(0, 1);
+            z.bind(1, 1);
+            z.changed(0);
+            z.confirm(a);
+            due.is("both bound to one thing, one of them doubted", z.count(4), 1);
+            z.melt(a, 1 - a);
+            due.is("doubted by the time of the other one", z.told(a, 7), 1);
+            z.bind(a, 1 << 5);
+            due.is("that time, not an earlier one", z.told(a, 7), 0);
+            z.bind(a, 1 << 6);
+            due.is("a thing that never changed", z.told(a, 7), 0);
+        }
     }
 
     private void meltedVotes() {

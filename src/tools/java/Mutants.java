@@ -26,8 +26,9 @@ import javax.tools.SimpleJavaFileObject;
 import javax.tools.ToolProvider;
 
 /**
- * Breaks the program at one place at a time and tells which breaks EdgesTest does not see. By hand, not in .ci/run, as README.md
- * says. Those that are told want a look: most do the same as the program (a guard that no call can reach).
+ * Breaks the program at one place at a time and tells which breaks EdgesTest does not see: all breaks, or, as the
+ * second argument says, every so many-th. By hand, as README.md says. Those that are told want a look: most do the same
+ * as the program (a guard that no call can reach).
  */
 public final class Mutants {
     private static final Path PROGRAM = Path.of("src/main/java/AnswerKeeper.java");
@@ -50,24 +51,33 @@ public final class Mutants {
         System.setOut(new PrintStream(OutputStream.nullOutputStream()));
         Mutants all = new Mutants(Path.of(args[0]));
         all.find();
-        int alive = all.run(out);
-        out.println(all.edits.size() + " breaks, " + alive + " not seen");
+        List<Edit> tried = all.each(args.length > 1 ? Integer.parseInt(args[1]) : 1);
+        int alive = all.run(tried, out);
+        out.println(tried.size() + " breaks, " + alive + " not seen");
         System.exit(0);
     }
 
-    private int run(PrintStream out) throws Exception {
+    private List<Edit> each(int step) {
+        List<Edit> some = new ArrayList<>();
+        for (int i = 0; i < edits.size(); i += Math.max(step, 1)) {
+            some.add(edits.get(i));
+        }
+        return some;
+    }
+
+    private int run(List<Edit> tried, PrintStream out) throws Exception {
         ExecutorService workers = Executors.newFixedThreadPool(6, Mutants::daemon);
         ExecutorService watched = Executors.newCachedThreadPool(Mutants::daemon);
         List<Future<String>> results = new ArrayList<>();
-        for (Edit edit : edits) {
+        for (Edit edit : tried) {
             results.add(workers.submit(() -> result(edit, watched)));
         }
         int alive = 0;
-        for (int i = 0; i < edits.size(); i++) {
+        for (int i = 0; i < tried.size(); i++) {
             String result = results.get(i).get();
             if (!result.equals("seen")) {
                 alive++;
-                out.println(told(edits.get(i)) + "   " + result);
+                out.println(told(tried.get(i)) + "   " + result);
             }
         }
         return alive;
