@@ -217,6 +217,10 @@ final class JoinEdges extends Edges {
             }
             x.confirm(part);
             due.is("none of its parts any more", x.told(5, 7), 0);
+            x.bind(part, 1023);
+            due.is("its part " + part + ", bound to all things", x.told(5, 7), 0);
+            x.changed(9);
+            due.is("its part " + part + ", bound to all things", x.told(5, 7), 1);
         }
     }
 
